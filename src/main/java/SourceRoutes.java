@@ -53,11 +53,15 @@ public final class SourceRoutes {
     private final World world = new World();
     /** What an IF is tried on, so that questions change nothing. */
     private final World trial = new World();
-    private final Image[] images = new Image[MOST_IMAGES];
+    private final Text[] keptTexts = new Text[MOST_IMAGES];
+    private final World[] keptWorlds = new World[MOST_IMAGES];
+    /** Which images there are, as bits. */
+    private int images;
 
     public SourceRoutes() {
-        for (int k = 0; k < images.length; k++) {
-            images[k] = new Image();
+        for (int k = 0; k < MOST_IMAGES; k++) {
+            keptTexts[k] = new Text();
+            keptWorlds[k] = new World();
         }
         reader.begin();
         world.become(reader);
@@ -308,21 +312,21 @@ public final class SourceRoutes {
     // ---- kept
 
     public boolean image(int k) {
-        if (k < 0 || k >= images.length) {
+        if (k < 0 || k >= MOST_IMAGES) {
             return false;
         }
-        images[k].there = true;
-        images[k].text.copyFrom(text);
-        images[k].world.copyFrom(world);
+        images |= 1 << k;
+        keptTexts[k].copyFrom(text);
+        keptWorlds[k].copyFrom(world);
         return true;
     }
 
     public boolean again(int k) {
-        if (k < 0 || k >= images.length || !images[k].there) {
+        if (k < 0 || k >= MOST_IMAGES || (images >> k & 1) == 0) {
             return false;
         }
-        text.copyFrom(images[k].text);
-        world.copyFrom(images[k].world);
+        text.copyFrom(keptTexts[k]);
+        world.copyFrom(keptWorlds[k]);
         return true;
     }
 
@@ -1440,12 +1444,5 @@ public final class SourceRoutes {
             }
             return false;
         }
-    }
-
-    /** All that there is, as it was kept. */
-    private static final class Image {
-        final Text text = new Text();
-        final World world = new World();
-        boolean there;
     }
 }

@@ -5,7 +5,7 @@ import java.util.Random;
 
 /** Runs of calls drawn by fixed seeds, on SourceRoutes and on the Model: every answer has to be the same. */
 public final class ModelTest {
-    private static final int RUNS = 1500;
+    private static final int RUNS = 600;
     private static final int CALLS = 512;
     private static final String[] WORDS =
         {"nodes", "hops", "room", "table", "buffer", "wait", "again", "salvage", "link", "map", "deaf"};
