@@ -19,8 +19,8 @@ public final class ModelTest {
     private boolean wrong;
 
     private ModelTest(int seed) {
-        random = new Random(seed);
-        kind = random.nextInt(4);
+        random = new Random(seed * 7919L + 1);
+        kind = seed % 4;
     }
 
     private static Object call(Object on, Method method, Object[] args) {
@@ -70,7 +70,7 @@ public final class ModelTest {
         StringBuilder s = new StringBuilder();
         int nodes = random.nextInt(3) == 0 ? 2 + random.nextInt(7) : 6 + random.nextInt(3);
         s.append("nodes ").append(nodes).append(";");
-        int part = 15 + random.nextInt(kind == 3 ? 85 : 40);
+        int part = kind == 3 ? 60 + random.nextInt(60) : 15 + random.nextInt(40);
         for (int a = 0; a < nodes; a++) {
             for (int b = a + 1; b < nodes; b++) {
                 if (random.nextInt(100) < part && s.length() < 300) {
@@ -206,6 +206,21 @@ public final class ModelTest {
         made = CALLS;
     }
 
+    /** So much is sent at once that THE AIR gets full. */
+    private void crowd() {
+        for (int round = 0; round < 2; round++) {
+            for (int k = 8 + random.nextInt(10); k > 0; k--) {
+                both("send", someNode(), someNode());
+            }
+            for (int k = 0; k < 3; k++) {
+                both("ticks", 1);
+                both("ahead", 2, 8);
+                both("quiet");
+                both("turn", someNode(), someNode(), random.nextBoolean());
+            }
+        }
+    }
+
     private boolean run() {
         if (kind == 2) {
             for (int k = 0; k < 4; k++) {
@@ -213,7 +228,17 @@ public final class ModelTest {
             }
         }
         tellAndRead(goodNet());
+        if (kind == 3) {
+            crowd();
+        }
+        int anew = kind == 2 ? CALLS / 2 : CALLS;
         while (made < CALLS && !wrong) {
+            if (made >= anew) {
+                anew = CALLS;
+                both("say", 0x2020202020202000L);
+                both("net");
+                tellAndRead(goodNet());
+            }
             if (random.nextInt(kind == 3 ? 5 : 2) == 0) {
                 question();
             } else {

@@ -181,6 +181,18 @@ public final class QuestionTest {
         CHECK.due("the later one holds", x.has(8), 6);
     }
 
+    /** The bytes of THE TEXT are kept, not their number alone. */
+    private static void imageOfText() {
+        SourceRoutes x = new SourceRoutes();
+        Check.tell(x, "nodes 5");
+        x.image(2);
+        x.net();
+        Check.tell(x, "deaf 0;");
+        x.again(2);
+        Check.tell(x, ";");
+        CHECK.due("net of the kept text", x.net(), 5);
+    }
+
     private static void wrongInputs() {
         SourceRoutes x = line();
         int[][] pairs = {{-1, 0}, {0, -1}, {4, 0}, {0, 4}, {Integer.MAX_VALUE, 1}, {1, Integer.MIN_VALUE}, {1, 1}};
@@ -225,6 +237,7 @@ public final class QuestionTest {
         wouldCome();
         floods();
         images();
+        imageOfText();
         wrongInputs();
         CHECK.end("QuestionTest");
     }

@@ -263,6 +263,31 @@ public final class RouteTest {
         CHECK.due("no REPLY comes of it", y.air(0, 0), -2);
     }
 
+    /** Salvage makes a TRAIL of more than HOPS LINKS: what is learned of it is cut. */
+    private static void learnedRowIsCut() {
+        SourceRoutes x = Check.net("nodes 6;hops 3;link 0 1;link 1 2;link 2 4;link 4 5;link 5 3;map 2;again 9;");
+        x.send(2, 3);
+        x.ticks(6);
+        x.ticks(3);
+        CHECK.due("the long way is known", x.hops(2, 3), 3);
+        x.turn(2, 3, false);
+        x.send(0, 3);
+        x.ticks(6);
+        x.ticks(2);
+        CHECK.dueRow("the way of 0", i -> x.way(0, 3, i), 0, 1, 2, 3);
+        CHECK.dueRow("TRAIL so far", i -> x.trail(1, i, false), 0, 1, 2);
+        x.turn(2, 3, true);
+        x.ticks(1);
+        CHECK.due("salvaged", x.data(1, 3), 1);
+        x.ticks(1);
+        dueKept(x, 4, 0, 4, 2, 1, 0);
+        x.ticks(1);
+        dueKept(x, 5, 0, 5, 4, 2, 1);
+        x.ticks(1);
+        dueKept(x, 3, 0, 3, 5, 4, 2);
+        CHECK.dueRow("TRAIL", i -> x.trail(1, i, false), 0, 1, 2, 4, 5, 3);
+    }
+
     private static void tableAndRoom() {
         SourceRoutes x = Check.net("nodes 4;link 0 1;table 2;room 1;again 9;");
         x.send(0, 2);
@@ -400,6 +425,7 @@ public final class RouteTest {
         buffersRunOut();
         jammed();
         hopsBound();
+        learnedRowIsCut();
         tableAndRoom();
         overheardReply();
         lostOnTheWayBack();

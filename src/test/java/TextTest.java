@@ -86,6 +86,13 @@ public final class TextTest {
         dueNet("node 3;", NONE, 1, 0);
         dueNet(" nodesx 3;", NONE, 1, 1);
         dueNet("nodes 3;hop 2;", NONE, 1, 8);
+        dueNet("xodes 3;", NONE, 1, 0);
+        dueNet("nodesz 3;", NONE, 1, 0);
+        dueNet("nodes{3;", NONE, 1, 5);
+        dueNet("nodes`3;", NONE, 1, 5);
+        dueNet("nodes 3:", NONE, 1, 7);
+        dueNet("nodes 3/", NONE, 1, 7);
+        dueNet("salvages 3;", NONE, 1, 0);
         dueNet("nodes", NONE, 1, 5);
         dueNet("nodes 3", NONE, 1, 7);
         dueNet("nodes 3 ", NONE, 1, 8);
@@ -142,15 +149,17 @@ public final class TextTest {
     private static void faultKeeps() {
         SourceRoutes x = Check.net("nodes 3;link 0 1;hops 5;");
         x.send(0, 1);
-        x.ticks(1);
+        x.ticks(3);
+        x.send(0, 1);
         Check.tell(x, "nodes 4;link 0 4;");
         CHECK.due("net with a FAULT", x.net(), NONE);
         CHECK.due("its FAULT", x.fault(false), 3);
         CHECK.due("its place", x.fault(true), 15);
         CHECK.due("NODES stay", x.has(0), 3);
         CHECK.due("HOPS stay", x.has(1), 5);
-        CHECK.due("NOW stays", x.has(8), 1);
-        CHECK.due("DATA stay", x.has(9), 1);
+        CHECK.due("NOW stays", x.has(8), 3);
+        CHECK.due("DATA stay", x.has(9), 2);
+        CHECK.due("tallies stay", x.tally(0), 2);
         CHECK.due("FRAMES stay", x.has(10), 1);
         CHECK.due("THE TEXT is empty", x.has(11), 0);
         Check.tell(x, "nodes 4;");
