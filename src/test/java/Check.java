@@ -2,12 +2,20 @@
 final class Check {
     private int wrong;
     private int checked;
+    private int sentences;
+    private String sentence = "";
+
+    /** Says by which promise or term, and by which of its words, the answers that come now are due. */
+    void of(String words) {
+        sentence = words + ": ";
+        sentences++;
+    }
 
     void due(String what, long got, long want) {
         checked++;
         if (got != want) {
             wrong++;
-            System.out.println(what + " answered " + got + ", due is " + want);
+            System.out.println(sentence + what + " answered " + got + ", due is " + want);
         }
     }
 
@@ -28,12 +36,42 @@ final class Check {
         due(what + " ahead of its beginning", answers.at(-1), SourceRoutes.NONE);
     }
 
+    /** All PATHS, or LINKS, that a CACHE has, the newest first. */
+    void dueCache(SourceRoutes x, int node, int[]... want) {
+        due("entries of the CACHE of " + node, x.node(node, 2), want.length);
+        for (int k = 0; k < want.length; k++) {
+            int entry = k;
+            dueRow("kept " + node + " " + k, i -> x.kept(node, entry, i), want[k]);
+        }
+        due("no entry more of the CACHE of " + node, x.kept(node, want.length, 0), SourceRoutes.NONE);
+        due("no entry less of the CACHE of " + node, x.kept(node, -1, 0), SourceRoutes.NONE);
+    }
+
+    /** What net() answers for a text, with its FAULT and the place of it; THE TEXT is empty then. */
+    void dueNet(String text, int nodes, int fault, int place) {
+        SourceRoutes x = new SourceRoutes();
+        tell(x, text);
+        due("net of '" + text + "'", x.net(), nodes);
+        due("fault of '" + text + "'", x.fault(false), fault);
+        due("place in '" + text + "'", x.fault(true), place);
+        due("THE TEXT behind net of '" + text + "'", x.has(11), 0);
+    }
+
+    void dueGood(String text, int nodes) {
+        dueNet(text, nodes, 0, SourceRoutes.NONE);
+    }
+
+    void dueFault(String text, int fault, int place) {
+        dueNet(text, SourceRoutes.NONE, fault, place);
+    }
+
     boolean hasFailed() {
         return wrong > 0;
     }
 
     void end(String name) {
-        System.out.println(name + ": " + checked + " answers, " + wrong + " of them not as due");
+        String by = sentences > 0 ? " by " + sentences + " sentences" : "";
+        System.out.println(name + ": " + checked + " answers" + by + ", " + wrong + " of them not as due");
         if (wrong > 0) {
             System.exit(1);
         }
@@ -62,5 +100,29 @@ final class Check {
             throw new IllegalStateException("a NET with a FAULT: " + text);
         }
         return x;
+    }
+
+    /**
+     * The LINKS along a row are UP alone for as long as a REQUEST of its last NODE, for one without LINKS,
+     * goes by: the first NODE LEARNS the row then. WAIT is to be 6 at most, so that it is not ASKED for anew.
+     */
+    static void bring(SourceRoutes x, int unreached, int... row) {
+        turnAll(x, false, row);
+        x.send(row[row.length - 1], unreached);
+        x.ticks(6);
+        turnAll(x, true, row);
+    }
+
+    private static void turnAll(SourceRoutes x, boolean down, int... row) {
+        for (int i = 1; i < row.length; i++) {
+            x.turn(row[i - 1], row[i], down);
+        }
+    }
+
+    /** So many TICKS, also more than one call takes. */
+    static void go(SourceRoutes x, int ticks) {
+        for (int left = ticks; left > 0; left -= 6) {
+            x.ticks(Math.min(left, 6));
+        }
     }
 }

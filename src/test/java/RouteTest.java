@@ -146,7 +146,7 @@ public final class RouteTest {
         y.turn(1, 2, true);
         y.turn(3, 4, true);
         y.ticks(2);
-        // 3 has a WAY back over 1 to 2 and 4 alone: that has a NODE of the TRAIL.
+        // 3 heard the ERROR of 1 and forgot 1 2: it has no WAY any more.
         dueData(y, 0, 0, 4, 1, 1, 3);
         y.ticks(1);
         dueData(y, 0, 0, 4, 3, 1, 3, 0, 0, 10);

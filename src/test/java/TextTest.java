@@ -3,20 +3,6 @@ public final class TextTest {
     private static final int NONE = SourceRoutes.NONE;
     private static final Check CHECK = new Check();
 
-    /** What net() answers for a text, with its FAULT and the place of it. */
-    private static void dueNet(String text, int nodes, int fault, int place) {
-        SourceRoutes x = new SourceRoutes();
-        Check.tell(x, text);
-        CHECK.due("net of '" + text + "'", x.net(), nodes);
-        CHECK.due("fault of '" + text + "'", x.fault(false), fault);
-        CHECK.due("place in '" + text + "'", x.fault(true), place);
-        CHECK.due("THE TEXT behind net of '" + text + "'", x.has(11), 0);
-    }
-
-    private static void dueGood(String text, int nodes) {
-        dueNet(text, nodes, 0, NONE);
-    }
-
     private static void newObject() {
         SourceRoutes x = new SourceRoutes();
         int[] first = {2, 7, 4, 4, 3, 9, 3, 1, 0, 0, 0, 0};
@@ -58,17 +44,17 @@ public final class TextTest {
     }
 
     private static void goodNets() {
-        dueGood("", 2);
-        dueGood(" \n ", 2);
-        dueGood("nodes 5;nodes 3;", 3);
-        dueGood("nodes5;link0 4;", 5);
-        dueGood("nodes\n8\n;\nlink 00 07 ;", 8);
-        dueGood("link 0 1;link 1 0;link 0 1;map 1;map 1;deaf 0;", 2);
-        dueGood("map 7;deaf 6;link 6 7;nodes 8;", 8);
-        dueGood("hops 1;room 1;table 1;buffer 1;wait 1;again 1;salvage 0;nodes 2;", 2);
-        dueGood("hops 7;room 6;table 6;buffer 4;wait 20;again 9;salvage 3;nodes 8;", 8);
+        CHECK.dueGood("", 2);
+        CHECK.dueGood(" \n ", 2);
+        CHECK.dueGood("nodes 5;nodes 3;", 3);
+        CHECK.dueGood("nodes5;link0 4;", 5);
+        CHECK.dueGood("nodes\n8\n;\nlink 00 07 ;", 8);
+        CHECK.dueGood("link 0 1;link 1 0;link 0 1;map 1;map 1;deaf 0;", 2);
+        CHECK.dueGood("map 7;deaf 6;link 6 7;nodes 8;", 8);
+        CHECK.dueGood("hops 1;room 1;table 1;buffer 1;wait 1;again 1;salvage 0;nodes 2;", 2);
+        CHECK.dueGood("hops 7;room 6;table 6;buffer 4;wait 20;again 9;salvage 3;nodes 8;", 8);
         String long400 = "nodes 4;".repeat(50);
-        dueGood(long400, 4);
+        CHECK.dueGood(long400, 4);
         SourceRoutes x = Check.net("nodes 6;hops 3;room 5;table 2;buffer 1;wait 12;again 8;salvage 2;hops 4;map 3;deaf 2;link 5 1;");
         int[] told = {6, 4, 5, 2, 1, 12, 8, 2};
         for (int what = 0; what < told.length; what++) {
@@ -83,66 +69,66 @@ public final class TextTest {
     }
 
     private static void firstFaults() {
-        dueNet("node 3;", NONE, 1, 0);
-        dueNet(" nodesx 3;", NONE, 1, 1);
-        dueNet("nodes 3;hop 2;", NONE, 1, 8);
-        dueNet("xodes 3;", NONE, 1, 0);
-        dueNet("nodesz 3;", NONE, 1, 0);
-        dueNet("nodes{3;", NONE, 1, 5);
-        dueNet("nodes`3;", NONE, 1, 5);
-        dueNet("nodes 3:", NONE, 1, 7);
-        dueNet("nodes 3/", NONE, 1, 7);
-        dueNet("salvages 3;", NONE, 1, 0);
-        dueNet("nodes", NONE, 1, 5);
-        dueNet("nodes 3", NONE, 1, 7);
-        dueNet("nodes 3 ", NONE, 1, 8);
-        dueNet("nodes ;", NONE, 1, 6);
-        dueNet("nodes three;", NONE, 1, 6);
-        dueNet("nodes 3 4;", NONE, 1, 8);
-        dueNet("nodes 003;", NONE, 1, 6);
-        dueNet("nodes 3;;", NONE, 1, 8);
-        dueNet("3;", NONE, 1, 0);
-        dueNet("link 01;", NONE, 1, 7);
-        dueNet("link 0 1 2;", NONE, 1, 9);
-        dueNet("link 0 111;", NONE, 1, 7);
-        dueNet("nodes\t3;", NONE, 1, 5);
-        dueNet("Nodes 3;", NONE, 1, 0);
-        dueNet("nodes -3;", NONE, 1, 6);
-        dueNet("nodes 3;" + (char) 0xe9, NONE, 1, 8);
-        dueNet("nodes 99; hops", NONE, 1, 14);
-        dueNet("deaf 7; hops 1; x", NONE, 1, 16);
+        CHECK.dueFault("node 3;", 1, 0);
+        CHECK.dueFault(" nodesx 3;", 1, 1);
+        CHECK.dueFault("nodes 3;hop 2;", 1, 8);
+        CHECK.dueFault("xodes 3;", 1, 0);
+        CHECK.dueFault("nodesz 3;", 1, 0);
+        CHECK.dueFault("nodes{3;", 1, 5);
+        CHECK.dueFault("nodes`3;", 1, 5);
+        CHECK.dueFault("nodes 3:", 1, 7);
+        CHECK.dueFault("nodes 3/", 1, 7);
+        CHECK.dueFault("salvages 3;", 1, 0);
+        CHECK.dueFault("nodes", 1, 5);
+        CHECK.dueFault("nodes 3", 1, 7);
+        CHECK.dueFault("nodes 3 ", 1, 8);
+        CHECK.dueFault("nodes ;", 1, 6);
+        CHECK.dueFault("nodes three;", 1, 6);
+        CHECK.dueFault("nodes 3 4;", 1, 8);
+        CHECK.dueFault("nodes 003;", 1, 6);
+        CHECK.dueFault("nodes 3;;", 1, 8);
+        CHECK.dueFault("3;", 1, 0);
+        CHECK.dueFault("link 01;", 1, 7);
+        CHECK.dueFault("link 0 1 2;", 1, 9);
+        CHECK.dueFault("link 0 111;", 1, 7);
+        CHECK.dueFault("nodes\t3;", 1, 5);
+        CHECK.dueFault("Nodes 3;", 1, 0);
+        CHECK.dueFault("nodes -3;", 1, 6);
+        CHECK.dueFault("nodes 3;" + (char) 0xe9, 1, 8);
+        CHECK.dueFault("nodes 99; hops", 1, 14);
+        CHECK.dueFault("deaf 7; hops 1; x", 1, 16);
     }
 
     private static void laterFaults() {
-        dueNet("nodes 1;", NONE, 2, 6);
-        dueNet("nodes 9;", NONE, 2, 6);
-        dueNet("hops 0;", NONE, 2, 5);
-        dueNet("hops 8;", NONE, 2, 5);
-        dueNet("room 0;", NONE, 2, 5);
-        dueNet("room 7;", NONE, 2, 5);
-        dueNet("table 0;", NONE, 2, 6);
-        dueNet("table 7;", NONE, 2, 6);
-        dueNet("buffer 0;", NONE, 2, 7);
-        dueNet("buffer 5;", NONE, 2, 7);
-        dueNet("wait 0;", NONE, 2, 5);
-        dueNet("wait 21;", NONE, 2, 5);
-        dueNet("again 0;", NONE, 2, 6);
-        dueNet("again 10;", NONE, 2, 6);
-        dueNet("salvage 4;", NONE, 2, 8);
-        dueNet("map 8;", NONE, 2, 4);
-        dueNet("deaf 99;", NONE, 2, 5);
-        dueNet("link 8 0;", NONE, 2, 5);
-        dueNet("link 0 8;", NONE, 2, 7);
-        dueNet("link 1 1;", NONE, 2, 7);
-        dueNet("link 1 01;", NONE, 2, 7);
-        dueNet("link 9 9;", NONE, 2, 5);
-        dueNet("map 7;nodes 9;nodes 8;hops 0;", NONE, 2, 12);
-        dueNet("map 2;", NONE, 3, 4);
-        dueNet("link 0 2;", NONE, 3, 7);
-        dueNet("link 3 2;", NONE, 3, 5);
-        dueNet("nodes 8;link 6 5;nodes 5;", NONE, 3, 13);
-        dueNet("nodes 8;link 5 6;nodes 6;", NONE, 3, 15);
-        dueNet("deaf 1;deaf 0;map 7;map 5;", NONE, 3, 18);
+        CHECK.dueFault("nodes 1;", 2, 6);
+        CHECK.dueFault("nodes 9;", 2, 6);
+        CHECK.dueFault("hops 0;", 2, 5);
+        CHECK.dueFault("hops 8;", 2, 5);
+        CHECK.dueFault("room 0;", 2, 5);
+        CHECK.dueFault("room 7;", 2, 5);
+        CHECK.dueFault("table 0;", 2, 6);
+        CHECK.dueFault("table 7;", 2, 6);
+        CHECK.dueFault("buffer 0;", 2, 7);
+        CHECK.dueFault("buffer 5;", 2, 7);
+        CHECK.dueFault("wait 0;", 2, 5);
+        CHECK.dueFault("wait 21;", 2, 5);
+        CHECK.dueFault("again 0;", 2, 6);
+        CHECK.dueFault("again 10;", 2, 6);
+        CHECK.dueFault("salvage 4;", 2, 8);
+        CHECK.dueFault("map 8;", 2, 4);
+        CHECK.dueFault("deaf 99;", 2, 5);
+        CHECK.dueFault("link 8 0;", 2, 5);
+        CHECK.dueFault("link 0 8;", 2, 7);
+        CHECK.dueFault("link 1 1;", 2, 7);
+        CHECK.dueFault("link 1 01;", 2, 7);
+        CHECK.dueFault("link 9 9;", 2, 5);
+        CHECK.dueFault("map 7;nodes 9;nodes 8;hops 0;", 2, 12);
+        CHECK.dueFault("map 2;", 3, 4);
+        CHECK.dueFault("link 0 2;", 3, 7);
+        CHECK.dueFault("link 3 2;", 3, 5);
+        CHECK.dueFault("nodes 8;link 6 5;nodes 5;", 3, 13);
+        CHECK.dueFault("nodes 8;link 5 6;nodes 6;", 3, 15);
+        CHECK.dueFault("deaf 1;deaf 0;map 7;map 5;", 3, 18);
     }
 
     /** A FAULT leaves all else as it is. */
