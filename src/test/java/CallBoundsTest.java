@@ -1,4 +1,5 @@
 import java.util.List;
+import java.util.function.Supplier;
 
 /** Promises 1 to 32 and Terms 4: what each call answers at the bounds of its arguments and beyond them. */
 public final class CallBoundsTest {
@@ -17,6 +18,8 @@ public final class CallBoundsTest {
     private interface One {
         int of(int n);
     }
+
+    private static final List<Supplier<SourceRoutes>> STATES = List.of(State::busy, State::worn);
 
     /** Numbers that are none of those from 0 up to a limit, some of which would be if bits were cut off. */
     private static int[] outside(int limit) {
@@ -56,30 +59,38 @@ public final class CallBoundsTest {
         throw new IllegalStateException("no FRAME of kind " + kind);
     }
 
-    private static SourceRoutes after(Act first, Act then) {
-        SourceRoutes x = State.busy();
+    private static SourceRoutes after(Supplier<SourceRoutes> made, Act first, Act then) {
+        SourceRoutes x = made.get();
         first.on(x);
         then.on(x);
         return x;
     }
 
-    /** What brings to light what can not be asked: when it was asked and buffered, the bytes, the images. */
-    private static final List<Act> LATER = List.of(
+    /** What brings to light what can not be asked: when it was asked and buffered, the bytes of THE TEXT. */
+    private static final List<Act> LOOKS = List.of(
         x -> { },
         x -> x.ticks(1),
         x -> x.ticks(6),
-        x -> x.net(),
+        x -> Check.go(x, 9),
+        x -> x.net());
+
+    /** The images, too; busy() kept one as 1. */
+    private static final List<Act> IMAGE_LOOKS = List.of(
         x -> CHECK.due("image 0", x.again(0), false),
         x -> CHECK.due("image 1", x.again(1), true),
         x -> CHECK.due("image 2", x.again(2), false));
 
-    private static final List<List<Integer>> UNCHANGED = LATER.stream().map(a -> State.of(after(x -> { }, a))).toList();
+    private static void dueSame(String what, Supplier<SourceRoutes> made, Act act, List<Act> looks) {
+        for (int k = 0; k < looks.size(); k++) {
+            List<Integer> want = State.of(after(made, x -> { }, looks.get(k)));
+            List<Integer> got = State.of(after(made, act, looks.get(k)));
+            CHECK.due(what + ", look " + k, got.equals(want), true);
+        }
+    }
 
     private static void dueUnchanged(String what, Act act) {
-        for (int k = 0; k < LATER.size(); k++) {
-            boolean same = State.of(after(act, LATER.get(k))).equals(UNCHANGED.get(k));
-            CHECK.due(what + " changes nothing, look " + k, same, true);
-        }
+        dueSame(what + " changes nothing", State::busy, act, LOOKS);
+        dueSame(what + " changes no image", State::busy, act, IMAGE_LOOKS);
     }
 
     private static void refusedChangeNothing() {
@@ -183,6 +194,30 @@ public final class CallBoundsTest {
         y.send(1, 0);
         y.ticks(1);
         CHECK.due("the LINK of the first two, told by the greater", y.node(1, 5), 1);
+        for (int a = 0; a < 8; a++) {
+            for (int b = 0; b < 8; b++) {
+                if (a != b) {
+                    linkThatBreaks(a, b);
+                }
+            }
+        }
+    }
+
+    /** a has a WAY to b, and finds the LINK DOWN. */
+    private static void linkThatBreaks(int a, int b) {
+        SourceRoutes x = Check.net("nodes 8;wait 3;again 9;link " + a + " " + b + ";");
+        x.send(b, a == 0 || b == 0 ? a + b == 1 ? 2 : 1 : 0);
+        x.ticks(1);
+        String of = " of " + a + " " + b;
+        CHECK.due("to whom" + of, x.node(a, 8), 1 << b);
+        CHECK.due("with whom" + of, x.node(a, 9), 1 << b);
+        CHECK.due("who holds it" + of, x.holders(a, b), 1 << a);
+        x.turn(a, b, true);
+        x.send(a, b);
+        x.ticks(1);
+        CHECK.due("its LINK" + of, x.node(a, 5), 10 * Math.min(a, b) + Math.max(a, b));
+        CHECK.due("for whom" + of, x.node(a, 7), 1 << b);
+        CHECK.due("it is forgotten" + of, x.holders(a, b), 0);
     }
 
     private static void newObject() {
@@ -202,7 +237,11 @@ public final class CallBoundsTest {
 
     private static void netIsAnew() {
         CHECK.of("Promise 3, 'all is as told, NOW 0, no DATA, nothing in THE AIR, CACHES empty, tallies 0'");
-        Act told = x -> CHECK.due("NODES", x.net(), 5);
+        Act told = x -> {
+            x.net();
+            Check.tell(x, "nodes 5;");
+            CHECK.due("NODES", x.net(), 5);
+        };
         Act further = x -> {
             for (int n = 0; n < 4; n++) {
                 x.turn(n, n + 1, false);
@@ -212,14 +251,21 @@ public final class CallBoundsTest {
             x.ticks(6);
             x.ticks(4);
         };
-        SourceRoutes x = after(told, y -> { });
-        SourceRoutes fresh = Check.net("nodes 5;");
-        CHECK.due("as a new one", State.of(x).equals(State.of(fresh)), true);
-        SourceRoutes xOn = after(told, further);
         SourceRoutes freshOn = Check.net("nodes 5;");
         further.on(freshOn);
-        CHECK.due("it goes on as a new one", State.of(xOn).equals(State.of(freshOn)), true);
-        CHECK.due("images stay", after(told, y -> CHECK.due("again", y.again(1), true)).has(0), 8);
+        for (Supplier<SourceRoutes> made : STATES) {
+            SourceRoutes x = after(made, told, y -> { });
+            CHECK.due("as a new one", State.of(x).equals(State.of(Check.net("nodes 5;"))), true);
+            SourceRoutes on = after(made, told, further);
+            CHECK.due("it goes on as a new one", State.of(on).equals(State.of(freshOn)), true);
+            SourceRoutes none = after(made, told, y -> { });
+            CHECK.due("no DATA", none.data(0, 0), NO_SUCH);
+            CHECK.due("no TRAIL", none.trail(0, 0, false), NONE);
+            CHECK.due("no REST", none.trail(0, 0, true), NONE);
+            CHECK.due("no FRAME", none.air(0, 0), NO_SUCH);
+            CHECK.due("no row", none.row(0, 0), NONE);
+        }
+        CHECK.due("images stay", after(State::busy, told, y -> CHECK.due("again", y.again(1), true)).has(0), 8);
         SourceRoutes large = Check.net("nodes 8;link 6 7;map 7;deaf 7;hops 1;");
         large.net();
         Check.tell(large, "nodes 8;");
@@ -242,8 +288,8 @@ public final class CallBoundsTest {
                 x.net();
                 x.again(1);
             };
-            List<Integer> got = State.of(after(wrong, x -> x.ticks(3)));
-            List<Integer> want = State.of(after(right, x -> x.ticks(3)));
+            List<Integer> got = State.of(after(State::busy, wrong, x -> x.ticks(3)));
+            List<Integer> want = State.of(after(State::busy, right, x -> x.ticks(3)));
             for (int k = 0; k < want.size() && k < got.size(); k++) {
                 boolean isFault = k == 23 || k == 24;
                 CHECK.due("answer " + k + " behind '" + text + "'", isFault || got.get(k).equals(want.get(k)), true);
@@ -583,6 +629,8 @@ public final class CallBoundsTest {
         CHECK.of("Promise 25, '(0, if one can not come there). NONE: no such NODES, the same one twice'");
         SourceRoutes x = Check.net("nodes 8;link 0 1;link 1 2;link 2 0;link 2 3;link 6 7;");
         dueTwo("bridges", 8, x::bridges, NONE);
+        CHECK.due("the first two", Check.net("link 0 1;").bridges(0, 1), 1);
+        CHECK.due("the first two, DOWN", Check.net("").bridges(0, 1), 0);
         CHECK.due("can not come there", x.bridges(0, 7), 0);
         CHECK.due("a ring has none", x.bridges(0, 2), 0);
         CHECK.due("out of the ring", x.bridges(0, 3), 1);
@@ -593,13 +641,12 @@ public final class CallBoundsTest {
         CHECK.due("all of them", x.bridges(1, 7), 5);
     }
 
-    /** IF is held against an object on which it comes so. */
-    private static int later(Act change, int ticks, int what) {
-        SourceRoutes x = State.busy();
-        change.on(x);
-        if (ticks > 0) {
-            x.ticks(ticks);
-        }
+    /** What comes so indeed on another object, for an IF to be held against it. */
+    private static SourceRoutes later(Supplier<SourceRoutes> made, Act change, int ticks) {
+        return after(made, change, x -> Check.go(x, ticks));
+    }
+
+    private static int countOf(SourceRoutes x, int what) {
         return what == 11 ? x.has(10) : what == 12 ? bufferedOf(x) : x.tally(what);
     }
 
@@ -617,12 +664,19 @@ public final class CallBoundsTest {
         for (int what = 0; what <= 12; what++) {
             int told = what;
             dueOutside("ticks, what " + what, 7, ticks -> x.ahead(ticks, told), NONE);
-            for (int ticks = 0; ticks <= 6; ticks++) {
-                CHECK.due("ahead(" + ticks + ", " + what + ")", x.ahead(ticks, what), later(y -> { }, ticks, what));
-            }
         }
         dueOutside("what of 0 TICKS", 13, what -> x.ahead(0, what), NONE);
         dueOutside("what of 6 TICKS", 13, what -> x.ahead(6, what), NONE);
+        for (Supplier<SourceRoutes> made : STATES) {
+            SourceRoutes asked = made.get();
+            for (int ticks = 0; ticks <= 6; ticks++) {
+                SourceRoutes then = later(made, y -> { }, ticks);
+                for (int what = 0; what <= 12; what++) {
+                    CHECK.due("ahead(" + ticks + ", " + what + ")", asked.ahead(ticks, what), countOf(then, what));
+                }
+            }
+        }
+        CHECK.due("it is shortened by listening", State.worn().ahead(1, 5), 2);
     }
 
     private static void turnedAndThen() {
@@ -633,11 +687,16 @@ public final class CallBoundsTest {
         dueOutside("ticks", 7, ticks -> x.turned(0, 1, ticks, 0), NONE);
         dueOutside("what", 13, what -> x.turned(0, 1, 0, what), NONE);
         dueOutside("what, later", 13, what -> x.turned(0, 7, 6, what), NONE);
-        for (int what = 0; what <= 12; what++) {
-            for (int ticks = 0; ticks <= 6; ticks += 3) {
-                String of = " of " + ticks + ", " + what;
-                CHECK.due("turned DOWN" + of, x.turned(0, 1, ticks, what), later(y -> y.turn(0, 1, true), ticks, what));
-                CHECK.due("turned UP" + of, x.turned(7, 0, ticks, what), later(y -> y.turn(0, 7, false), ticks, what));
+        for (Supplier<SourceRoutes> made : STATES) {
+            SourceRoutes asked = made.get();
+            for (int ticks = 0; ticks <= 6; ticks++) {
+                SourceRoutes down = later(made, y -> y.turn(0, 1, true), ticks);
+                SourceRoutes up = later(made, y -> y.turn(0, 7, false), ticks);
+                for (int what = 0; what <= 12; what++) {
+                    String of = " of " + ticks + ", " + what;
+                    CHECK.due("turned DOWN" + of, asked.turned(0, 1, ticks, what), countOf(down, what));
+                    CHECK.due("turned UP" + of, asked.turned(7, 0, ticks, what), countOf(up, what));
+                }
             }
         }
     }
@@ -650,14 +709,18 @@ public final class CallBoundsTest {
         dueOutside("ticks", 7, ticks -> x.sent(0, 1, ticks, 0), NO_SUCH);
         dueOutside("what", 9, what -> x.sent(0, 1, 0, what), NO_SUCH);
         dueOutside("what, later", 9, what -> x.sent(0, 1, 6, what), NO_SUCH);
-        for (int ticks = 0; ticks <= 6; ticks++) {
-            SourceRoutes y = State.busy();
-            y.send(4, 7);
-            if (ticks > 0) {
-                y.ticks(ticks);
-            }
-            for (int what = 0; what <= 8; what++) {
-                CHECK.due("sent, " + ticks + ", " + what, x.sent(4, 7, ticks, what), y.data(5, what));
+        int[][] pairs = {{0, 3}, {4, 7}, {0, 4}, {3, 0}, {5, 4}};
+        for (Supplier<SourceRoutes> made : STATES) {
+            SourceRoutes asked = made.get();
+            for (int ticks = 0; ticks <= 6; ticks++) {
+                for (int[] p : pairs) {
+                    SourceRoutes then = later(made, y -> y.send(p[0], p[1]), ticks);
+                    int number = asked.has(9);
+                    for (int what = 0; what <= 8; what++) {
+                        String of = "sent " + p[0] + " " + p[1] + ", " + ticks + ", " + what;
+                        CHECK.due(of, asked.sent(p[0], p[1], ticks, what), then.data(number, what));
+                    }
+                }
             }
         }
     }
@@ -706,6 +769,13 @@ public final class CallBoundsTest {
         y.send(0, 2);
         // The REQUEST at 1 and 2, the REPLY at 3 and 4; the DATA is LOST at 1.
         CHECK.due("THE AIR is empty later than BUFFERS", y.quiet(), 4);
+        SourceRoutes worn = State.worn();
+        int ticks = State.worn().quiet();
+        for (int k = 0; k < ticks; k++) {
+            CHECK.due("not quiet after " + k, worn.has(10) + bufferedOf(worn) > 0, true);
+            worn.ticks(1);
+        }
+        CHECK.due("quiet after " + ticks, worn.has(10) + bufferedOf(worn), 0);
     }
 
     private static void imaging() {
@@ -736,7 +806,8 @@ public final class CallBoundsTest {
             int image = k;
             Act roundTrip = x -> {
                 x.image(image);
-                Check.tell(x, "   ");
+                x.net();
+                Check.tell(x, "hops 1;room 1;table 1;buffer 1;wait 1;again 1;salvage 0;map 0;deaf 1;");
                 x.net();
                 x.turn(0, 1, false);
                 x.send(1, 0);
@@ -745,9 +816,8 @@ public final class CallBoundsTest {
                 x.net();
                 CHECK.due("again", x.again(image), true);
             };
-            for (int look = 0; look < 4; look++) {
-                boolean same = State.of(after(roundTrip, LATER.get(look))).equals(UNCHANGED.get(look));
-                CHECK.due("as it was kept as " + k + ", look " + look, same, true);
+            for (Supplier<SourceRoutes> made : STATES) {
+                dueSame("as it was kept as " + k, made, roundTrip, LOOKS);
             }
         }
     }

@@ -105,4 +105,23 @@ final class State {
         Check.tell(x, "nodes 5;" + " ".repeat(388));
         return x;
     }
+
+    /**
+     * DATA that were DELIVERED, LOST, shortened, and BUFFERED anew after a BREAK; one more is to be shortened
+     * by listening; a NODE is DEAF.
+     */
+    static SourceRoutes worn() {
+        SourceRoutes x = Check.net("nodes 8;link 0 1;link 1 2;link 2 3;link 4 5;deaf 6;map 3;again 9;wait 9;");
+        x.send(0, 3);
+        x.send(4, 7);
+        Check.go(x, 9);
+        x.turn(4, 5, true);
+        x.send(5, 4);
+        x.ticks(5);
+        x.turn(0, 2, false);
+        x.send(0, 3);
+        x.ticks(1);
+        x.send(0, 3);
+        return x;
+    }
 }

@@ -233,6 +233,9 @@ public final class TextBoundsTest {
             CHECK.dueFault(word.substring(0, word.length() - 1) + two + ";", 1, 0);
             CHECK.dueFault(word + "s" + two + ";", 1, 0);
             CHECK.dueFault(word + ";", 1, word.length());
+            for (int i = 0; i < word.length(); i++) {
+                CHECK.dueFault(word.substring(0, i) + "z" + word.substring(i + 1) + two + ";", 1, 0);
+            }
         }
     }
 

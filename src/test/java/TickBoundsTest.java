@@ -1,3 +1,5 @@
+import java.util.stream.IntStream;
+
 /** Terms 3: the bounds of THE AIR, of DATA, BUFFERS and TICKS, on courses worked out by hand from the document. */
 public final class TickBoundsTest {
     private static final int NONE = SourceRoutes.NONE;
@@ -325,6 +327,69 @@ public final class TickBoundsTest {
         CHECK.dueCache(y, 3, new int[] {3, 2, 1, 0});
     }
 
+    private static void restAndTrailAreLearned() {
+        CHECK.of("Terms 3, (a), 'y LEARNS the REST from y on, then the TRAIL backwards from y on'");
+        SourceRoutes x = Check.net("nodes 7;room 2;wait 6;again 9;");
+        Check.bring(x, 6, 0, 1, 2, 3);
+        Check.bring(x, 6, 1, 4);
+        Check.bring(x, 6, 1, 5);
+        CHECK.dueCache(x, 1, new int[] {1, 5}, new int[] {1, 4});
+        x.turn(0, 1, false);
+        x.send(0, 3);
+        x.ticks(1);
+        CHECK.dueCache(x, 1, new int[] {1, 0}, new int[] {1, 2, 3});
+    }
+
+    /** 0 is NEAR all of the row 3 2 1, and so are 4, that is DEAF, and 5. */
+    private static SourceRoutes listeners() {
+        SourceRoutes x = Check.net("nodes 7;deaf 4;wait 6;again 9;");
+        Check.bring(x, 6, 3, 2, 1);
+        Check.bring(x, 6, 0, 2, 1);
+        Check.bring(x, 6, 4, 2, 1);
+        Check.bring(x, 6, 5, 2, 1);
+        x.turn(3, 2, false);
+        for (int z : new int[] {0, 4, 5}) {
+            x.turn(3, z, false);
+            x.turn(2, z, false);
+        }
+        return x;
+    }
+
+    private static void errorsAreHeard() {
+        CHECK.of("Terms 3, (d), 'Then each of NEAR but y that LISTENS FORGETS the LINK told of'");
+        SourceRoutes x = listeners();
+        x.send(3, 1);
+        CHECK.dueRow("over 2", i -> x.trail(4, i, true), 3, 2, 1);
+        CHECK.due("all of them know it", x.holders(1, 2), 1 | 4 | 8 | 16 | 32);
+        x.ticks(1);
+        CHECK.dueRow("0 heard the DATA", i -> x.kept(0, 0, i), 0, 3);
+        CHECK.dueRow("5 heard the DATA", i -> x.kept(5, 0, i), 5, 3);
+        CHECK.dueCache(x, 4, new int[] {4, 2, 1});
+        x.ticks(1);
+        dueFrame(x, 0, 3, 2, 3, 12, 2, 3);
+        CHECK.due("2 forgot", x.holders(1, 2), 1 | 8 | 16 | 32);
+        x.ticks(1);
+        CHECK.due("3, and 0 and 5 that heard it; not 4", x.holders(1, 2), 16);
+        CHECK.dueCache(x, 0, new int[] {0, 3}, new int[] {0, 2});
+    }
+
+    private static void repliesAreHeard() {
+        CHECK.of("Terms 3, (c), 'Then each of NEAR but y that LISTENS and is not in the row from x on LEARNS'");
+        SourceRoutes x = Check.net("nodes 6;link 3 2;link 2 1;link 2 0;link 2 4;link 1 5;link 1 0;deaf 4;again 9;");
+        x.send(3, 1);
+        x.ticks(2);
+        dueFrame(x, 0, 1, 0, NONE, 1, 3, 2, 0);
+        dueFrame(x, 1, 2, 1, 2, 1, 3, 2, 1);
+        x.ticks(1);
+        CHECK.dueRow("0 heard 1", i -> x.kept(0, 0, i), 0, 1);
+        CHECK.dueRow("5 heard 1", i -> x.kept(5, 0, i), 5, 1);
+        x.ticks(1);
+        CHECK.dueRow("0 heard 2", i -> x.kept(0, 0, i), 0, 2, 1);
+        CHECK.dueCache(x, 4, new int[] {4, 2, 3});
+        CHECK.due("the first one has it", x.hops(3, 1), 2);
+        CHECK.due("1 is in the row from 2 on", x.node(1, 2), 1);
+    }
+
     private static void shortenedOnce() {
         CHECK.of("Terms 3, (a), 'if it is in the REST behind y and did not shorten this DATA yet'");
         SourceRoutes x = line("");
@@ -384,7 +449,9 @@ public final class TickBoundsTest {
             SourceRoutes x = Check.net(chain(7) + "hops " + hops + ";");
             x.send(0, hops);
             Check.go(x, hops);
-            dueFrame(x, 0, 2, hops, hops - 1, hops, java.util.stream.IntStream.rangeClosed(0, hops).toArray());
+            int[] row = IntStream.rangeClosed(0, hops).toArray();
+            dueFrame(x, 0, 2, hops, hops - 1, hops, row);
+            CHECK.dueCache(x, hops, IntStream.rangeClosed(-hops, 0).map(n -> -n).toArray());
             Check.go(x, hops);
             CHECK.due("a WAY of " + hops, x.hops(0, hops), hops);
             if (hops < 7) {
@@ -666,6 +733,9 @@ public final class TickBoundsTest {
         salvagedWithoutALoop();
         servedAtOnce();
         whoLearnsFromData();
+        restAndTrailAreLearned();
+        errorsAreHeard();
+        repliesAreHeard();
         shortenedOnce();
         shortenedByEach();
         requestHasHops();
