@@ -748,6 +748,13 @@ public final class CallBoundsTest {
         CHECK.due("REQUESTS over all", far.flood(0, 7, false), 7);
         CHECK.due("REPLIES when the last REQUEST came", far.flood(0, 7, true), 1);
         CHECK.due("REPLIES that go on meanwhile", far.flood(2, 0, true), 2);
+        SourceRoutes full = Check.net("nodes 8;link 0 1;link 1 2;link 2 3;link 3 4;link 4 5;buffer 4;");
+        for (int k = 0; k < 8; k++) {
+            full.send(6 + k % 2, k / 2);
+        }
+        CHECK.due("REQUESTS in THE AIR", full.has(10), 8);
+        CHECK.due("REQUESTS, those left out", full.flood(0, 5, false), 5);
+        CHECK.due("REPLIES, those left out", full.flood(0, 5, true), 1);
     }
 
     private static void quietening() {

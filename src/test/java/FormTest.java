@@ -1,4 +1,5 @@
 import java.io.IOException;
+import java.lang.reflect.Field;
 import java.lang.reflect.Method;
 import java.lang.reflect.Modifier;
 import java.nio.file.Files;
@@ -44,6 +45,7 @@ public final class FormTest {
         CHECK.due("final", Modifier.isFinal(SourceRoutes.class.getModifiers()), true);
         CHECK.due("constructors", SourceRoutes.class.getConstructors().length, 1);
         CHECK.due("public fields", SourceRoutes.class.getFields().length, 1);
+        CHECK.due("twelve classes at most", SourceRoutes.class.getDeclaredClasses().length <= 11, true);
         inside(SourceRoutes.class, names);
         for (Class<?> c : SourceRoutes.class.getDeclaredClasses()) {
             CHECK.due(c.getName() + " is static", Modifier.isStatic(c.getModifiers()), true);
@@ -61,6 +63,41 @@ public final class FormTest {
         }
     }
 
+    /** Some twenty fields beside the constants; no static state. */
+    private static void fields() {
+        fieldsOf(SourceRoutes.class);
+        for (Class<?> c : SourceRoutes.class.getDeclaredClasses()) {
+            fieldsOf(c);
+        }
+    }
+
+    private static void fieldsOf(Class<?> c) {
+        int own = 0;
+        for (Field f : c.getDeclaredFields()) {
+            if (Modifier.isStatic(f.getModifiers())) {
+                CHECK.due(f + " is final", Modifier.isFinal(f.getModifiers()), true);
+            } else {
+                own++;
+            }
+        }
+        CHECK.due(c.getName() + " has twenty fields at most", own <= 20, true);
+    }
+
+    /** Some sixty lines a method: members of a class stand four blanks deep, those of classes inside it eight. */
+    private static void methods() throws IOException {
+        int begun = 0;
+        int at = 0;
+        for (String line : Files.readAllLines(Path.of("src/main/java/SourceRoutes.java"))) {
+            at++;
+            if (line.matches("( {4}| {8})[\\w\\[\\] ]+\\(.*\\) \\{") && !line.trim().matches("(if|for|while|switch)\\b.*")) {
+                begun = at;
+            } else if (line.matches("( {4}| {8})\\}")) {
+                CHECK.due("the method at line " + begun + " has sixty lines at most", begun == 0 || at - begun < 60, true);
+                begun = 0;
+            }
+        }
+    }
+
     private static void words() throws IOException {
         String source = Files.readString(Path.of("src/main/java/SourceRoutes.java"));
         String code = source.replaceAll("(?s)/\\*.*?\\*/", "").replaceAll("//[^\n]*", "");
@@ -74,6 +111,8 @@ public final class FormTest {
 
     public static void main(String[] args) throws IOException {
         face();
+        fields();
+        methods();
         words();
         CHECK.end("FormTest");
     }

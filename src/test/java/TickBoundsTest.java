@@ -572,6 +572,58 @@ public final class TickBoundsTest {
         }
     }
 
+    private static void replyMeetsDown() {
+        CHECK.of("Terms 3, (c), 'If the LINK is DOWN: x FORGETS it, nothing more'");
+        SourceRoutes x = Check.net("nodes 5;link 0 1;link 1 2;link 2 4;again 9;wait 20;");
+        x.send(0, 2);
+        x.ticks(2);
+        dueFrame(x, 0, 2, 2, 1, 2, 0, 1, 2);
+        x.turn(1, 2, true);
+        CHECK.dueCache(x, 2, new int[] {2, 1, 0});
+        x.ticks(1);
+        CHECK.dueCache(x, 2);
+        CHECK.dueCache(x, 4);
+        CHECK.due("1 does not know 2", x.hops(1, 2), NONE);
+        CHECK.due("no FRAME", x.has(10), 0);
+        CHECK.due("no BREAK", x.tally(6), 0);
+        CHECK.due("no NEWS", x.node(2, 5), NONE);
+    }
+
+    private static void errorMeetsDown() {
+        CHECK.of("Terms 3, (d), 'If the LINK between x and y is DOWN: x FORGETS that one, nothing more'");
+        SourceRoutes x = listeners();
+        x.send(3, 1);
+        x.ticks(2);
+        dueFrame(x, 0, 3, 2, 3, 12, 2, 3);
+        x.turn(2, 3, true);
+        CHECK.due("2 knows it", x.holders(2, 3) & 4, 4);
+        x.ticks(1);
+        CHECK.due("2 forgot it", x.holders(2, 3) & 4, 0);
+        CHECK.due("nobody else heard of the other one", x.holders(1, 2), 1 | 8 | 16 | 32);
+        CHECK.due("no NEWS", x.node(3, 5), NONE);
+        CHECK.due("no FRAME", x.has(10), 0);
+        CHECK.due("BREAKS, of the DATA alone", x.tally(6), 1);
+    }
+
+    private static void nearByNumbers() {
+        CHECK.of("Terms 3, 'NEAR are the other NODES whose LINK with x is UP, by numbers'");
+        SourceRoutes x = Check.net("nodes 8;link 4 7;link 4 0;link 4 5;link 4 2;again 9;");
+        x.send(4, 6);
+        x.ticks(1);
+        int[] near = {0, 2, 5, 7};
+        CHECK.due("FRAMES", x.has(10), near.length);
+        for (int k = 0; k < near.length; k++) {
+            dueFrame(x, k, 1, near[k], NONE, 6, 4, near[k]);
+        }
+        x.turn(4, 0, true);
+        x.turn(4, 1, false);
+        x.send(4, 3);
+        x.ticks(1);
+        CHECK.due("one that is DOWN by now", x.node(0, 6), 1);
+        CHECK.due("one that is UP by now", x.node(1, 6), 1);
+        CHECK.due("the others", x.node(2, 6), 2);
+    }
+
     private static void errorUpToOrigin() {
         CHECK.of("Terms 3, (d), 'if y is ORIGIN, that LINK is its NEWS, else it sends the ERROR on to the next one back'");
         SourceRoutes x = line("");
@@ -746,7 +798,10 @@ public final class TickBoundsTest {
         duplicateByTable();
         newsOfADuplicate();
         replyUpToTheFirst();
+        replyMeetsDown();
         errorUpToOrigin();
+        errorMeetsDown();
+        nearByNumbers();
         waitsForWait();
         waitsAnew();
         aWayAtTheLastTick();
