@@ -371,6 +371,13 @@ public final class TickBoundsTest {
         x.ticks(1);
         CHECK.due("3, and 0 and 5 that heard it; not 4", x.holders(1, 2), 16);
         CHECK.dueCache(x, 0, new int[] {0, 3}, new int[] {0, 2});
+        // One whose LINK with the sender is DOWN hears nothing, be it NEAR the one that it is sent to.
+        SourceRoutes y = listeners();
+        y.send(3, 1);
+        y.ticks(2);
+        y.turn(0, 2, true);
+        y.ticks(1);
+        CHECK.due("5 heard it; 0 is not NEAR any more", y.holders(1, 2), 1 | 16);
     }
 
     private static void repliesAreHeard() {
